@@ -317,8 +317,8 @@ public final class TraderRights {
     /** The groups of a trader, groups of groups too, on ways that stay within a set of traders. */
     private int groupsAmong(int trader, int allowed) {
         int found = directGroups[trader] & allowed;
-        // a way without a ring has fewer steps than there are traders
-        for (int step = 1; step < traders; step++) {
+        // the first step is done above; a way without a ring has fewer steps than there are traders
+        for (int step = 2; step < traders; step++) {
             found = found | (groupsOfAll(found) & allowed);
         }
         return found;

@@ -53,6 +53,15 @@ public final class Promise05GroupTest {
         due.is("through the whole chain", x.may(11, 6, 6, 0), 0);
         due.is("a ring of all", x.group(0, 11), 0);
         due.is("a ring of some", x.group(3, 9), 0);
+
+        TraderRights y = World.four();
+        y.group(1, 0);
+        y.group(0, 2);
+        y.group(2, 3);
+        y.right(3, 6, 6, 0, 9);
+        due.is("groups on a way through the first trader", y.look(1, 0, 2), 3);
+        due.is("on a way through the first trader", y.may(1, 6, 6, 0), 0);
+        due.is("a ring through the first trader", y.group(3, 1), 0);
     }
 
     private static void diamond() {
