@@ -2,114 +2,80 @@ public final class Promise05GroupTest {
     private static final Due due = new Due();
 
     public static void main(String[] args) {
-        ordinary();
-        alive();
-        longest();
-        diamond();
-        refused();
-        wrong();
+        due.sentence("A trader is in a group: 1", Promise05GroupTest::isIn);
+        due.sentence("0 if it is", Promise05GroupTest::itIs);
+        due.sentence("a ring would come of it", Promise05GroupTest::aRing);
+        due.sentence("or it is in 4", Promise05GroupTest::itIsIn4);
+        due.sentence("IllegalArgumentException if there are no such traders", Promise05GroupTest::noSuchTraders);
+        due.sentence("or they are the same", Promise05GroupTest::theSame);
         due.end();
     }
 
-    private static void ordinary() {
-        TraderRights x = World.four();
-        x.right(1, 2, TraderRights.NONE, 0, 9);
-        x.right(2, 3, TraderRights.NONE, 0, 9);
-        due.is("group(0, 1)", x.group(0, 1), 1);
-        due.is("group(1, 2)", x.group(1, 2), 1);
-        due.is("by the group's row", x.may(0, 2, 0, 5), 0);
-        due.is("by the group's group's row", x.may(0, 3, 0, 5), 0);
-        due.is("a group has nothing by its members", x.may(2, 2, 0, 5), 7);
-        due.is("groups of 0", x.look(0, 5, 2), 2);
-        due.is("groups of 1", x.look(1, 5, 2), 1);
-        due.is("groups of 2", x.look(2, 5, 2), 0);
-    }
-
-    private static void alive() {
-        TraderRights x = World.four();
-        x.right(2, 3, TraderRights.NONE, 0, 100);
-        x.group(0, 1);
-        x.group(1, 2);
-        x.end(2, 20);
-        due.is("groups before the last one's end", x.look(0, 19, 2), 2);
-        due.is("groups behind the last one's end", x.look(0, 20, 2), 1);
-        due.is("by an ended group", x.may(0, 3, 0, 20), 7);
-        x.suspend(1, 10, true);
-        due.is("groups behind a suspended one", x.look(0, 15, 2), 0);
-        due.is("through a suspended group", x.may(0, 3, 0, 15), 7);
-        due.is("groups of the suspended one itself", x.look(1, 15, 2), 1);
-        due.is("acts of the suspended one itself", x.look(1, 15, 3), 1);
-        x.group(0, 2);
-        due.is("another way round the suspended group", x.may(0, 3, 0, 15), 0);
-    }
-
-    private static void longest() {
-        TraderRights x = World.withTraders(12);
-        for (int t = 11; t > 0; t--) {
-            due.is("chain", x.group(t, t - 1), 1);
-        }
-        x.right(0, 6, 6, 0, 9);
-        due.is("groups at the end of the chain", x.look(11, 0, 2), 11);
-        due.is("through the whole chain", x.may(11, 6, 6, 0), 0);
-        due.is("a ring of all", x.group(0, 11), 0);
-        due.is("a ring of some", x.group(3, 9), 0);
-
-        TraderRights y = World.four();
-        y.group(1, 0);
-        y.group(0, 2);
-        y.group(2, 3);
-        y.right(3, 6, 6, 0, 9);
-        due.is("groups on a way through the first trader", y.look(1, 0, 2), 3);
-        due.is("on a way through the first trader", y.may(1, 6, 6, 0), 0);
-        due.is("a ring through the first trader", y.group(3, 1), 0);
-    }
-
-    private static void diamond() {
-        TraderRights x = World.four();
-        x.group(0, 1);
-        x.group(0, 2);
-        x.group(1, 3);
-        due.is("two ways to one group", x.group(2, 3), 1);
-        due.is("counted once", x.look(0, 0, 2), 3);
-    }
-
     private static TraderRights chained() {
-        TraderRights x = World.four();
+        TraderRights x = World.withTraders(7);
         x.group(0, 1);
         x.group(1, 2);
+        x.group(6, 5);
+        x.group(5, 4);
         return x;
     }
 
-    private static TraderRights inFour() {
-        TraderRights x = World.withTraders(12);
+    private static void isIn() {
+        TraderRights x = World.four();
+        x.right(1, 2, World.ANYWHERE, 0, 9);
+        due.is("group(0, 1)", x.group(0, 1), 1);
+        due.is("by the group's row", x.may(0, 2, 0, 5), 0);
+        due.is("a group is in one, too", x.group(1, 3), 1);
+        due.is("groups", x.look(0, 5, 2), 2);
+        TraderRights y = World.four();
+        y.end(1, 0);
+        due.is("in an ended one", y.group(0, 1), 1);
+        due.is("an ended one in another", y.group(1, 2), 1);
+    }
+
+    private static void itIs() {
+        due.refused("in it", 0, Promise05GroupTest::chained, x -> x.group(0, 1));
+        due.refused("in it, the group is in one", 0, Promise05GroupTest::chained, x -> x.group(1, 2));
+        due.is("in it by another group only", chained().group(0, 2), 1);
+    }
+
+    private static void aRing() {
+        due.refused("of two", 0, Promise05GroupTest::chained, x -> x.group(1, 0));
+        due.refused("of two, down", 0, Promise05GroupTest::chained, x -> x.group(5, 6));
+        due.refused("of three", 0, Promise05GroupTest::chained, x -> x.group(2, 0));
+        due.refused("of three, down", 0, Promise05GroupTest::chained, x -> x.group(4, 6));
+        due.is("none", chained().group(2, 6), 1);
+    }
+
+    private static TraderRights in4() {
+        TraderRights x = World.twelve();
         for (int g = 1; g <= 4; g++) {
-            due.is("group number " + g, x.group(0, g + 5), 1);
+            due.is("group number " + g, x.group(3, g + 5), 1);
         }
         return x;
     }
 
-    private static void refused() {
-        due.refused("in it already", 0, Promise05GroupTest::chained, x -> x.group(0, 1));
-        due.refused("a ring of two", 0, Promise05GroupTest::chained, x -> x.group(1, 0));
-        due.refused("a ring of three", 0, Promise05GroupTest::chained, x -> x.group(2, 0));
-        due.refused("a fifth group", 0, Promise05GroupTest::inFour, x -> x.group(0, 1));
-        due.refused("a ring through ended ones", 0, Promise05GroupTest::chainedAndEnded, x -> x.group(2, 0));
-        due.is("one more member of the same group", inFour().group(1, 6), 1);
-        due.is("in a group that is in four", inFour().group(1, 0), 1);
+    private static void itIsIn4() {
+        due.refused("a fifth", 0, Promise05GroupTest::in4, x -> x.group(3, 0));
+        due.refused("a fifth, the last trader", 0, Promise05GroupTest::in4, x -> x.group(3, 11));
+        due.refused("the fourth once more", 0, Promise05GroupTest::in4, x -> x.group(3, 9));
+        due.is("another one in the same group", in4().group(1, 6), 1);
+        due.is("another one in it as a group", in4().group(1, 3), 1);
     }
 
-    private static TraderRights chainedAndEnded() {
-        TraderRights x = chained();
-        x.end(1, 0);
-        x.end(0, 0);
-        return x;
-    }
-
-    private static void wrong() {
+    private static void noSuchTraders() {
         for (int t : World.WRONG_TRADERS) {
             due.throwing("trader " + t, IllegalArgumentException.class, World::four, x -> x.group(t, 0));
             due.throwing("group " + t, IllegalArgumentException.class, World::four, x -> x.group(0, t));
+            due.throwing("both " + t, IllegalArgumentException.class, World::four, x -> x.group(t, t));
         }
-        due.throwing("the same", IllegalArgumentException.class, World::four, x -> x.group(2, 2));
+    }
+
+    private static void theSame() {
+        for (int t = 0; t < 4; t++) {
+            int same = t;
+            due.throwing("both " + t, IllegalArgumentException.class, World::four, x -> x.group(same, same));
+        }
+        due.throwing("both, in 4", IllegalArgumentException.class, Promise05GroupTest::in4, x -> x.group(3, 3));
     }
 }

@@ -2,72 +2,60 @@ public final class Promise07MandateTest {
     private static final Due due = new Due();
 
     public static void main(String[] args) {
-        direct();
-        indirect();
-        wrong();
-        full();
+        due.sentence("A MANDATE: how many there are.", Promise07MandateTest::howMany);
+        due.sentence("IllegalArgumentException if there are no such traders", Promise07MandateTest::noSuchTraders);
+        due.sentence("they are the same", Promise07MandateTest::theSame);
+        due.sentence("or there is no such day", Promise07MandateTest::noSuchDay);
+        due.sentence("IllegalStateException if there are 60", Promise07MandateTest::thereAre60);
         due.end();
     }
 
-    private static void direct() {
+    private static void howMany() {
         TraderRights x = World.four();
-        x.right(0, 1, TraderRights.NONE, 0, 100);
-        due.is("first mandate", x.mandate(0, 1, true, 10), 1);
-        due.is("count(2)", x.count(2), 1);
-        due.is("on the last day of it", x.may(1, 1, 0, 10), 0);
-        due.is("behind it", x.may(1, 1, 0, 11), 7);
-        due.is("another act", x.may(1, 2, 0, 10), 7);
-        due.is("not back to who gave it", x.mandate(1, 2, true, 100), 2);
-        due.is("nothing goes on", x.may(2, 1, 0, 10), 7);
-        due.is("the same again counts", x.mandate(0, 1, true, 10), 3);
-        due.is("a later one", x.mandate(0, 1, true, 100000), 4);
-        due.is("by the later one", x.may(1, 1, 0, 11), 0);
-        due.is("until day 0", x.mandate(0, 3, true, 0), 5);
-        due.is("on day 0", x.may(3, 1, 0, 0), 0);
-        due.is("on day 1", x.may(3, 1, 0, 1), 7);
+        due.is("first", x.mandate(0, 1, true, 10), 1);
+        due.is("the same again", x.mandate(0, 1, true, 10), 2);
+        due.is("the other way", x.mandate(1, 0, false, 10), 3);
+        due.is("until the first day", x.mandate(3, 2, true, 0), 4);
+        due.is("until the last day", x.mandate(2, 3, false, 100000), 5);
+        due.is("count(2)", x.count(2), 5);
+        x.end(0, 0);
+        due.is("of an ended one", x.mandate(0, 1, true, 5), 6);
     }
 
-    private static void indirect() {
-        TraderRights x = World.four();
-        x.right(0, 1, TraderRights.NONE, 0, 100);
-        x.mandate(0, 1, false, 50);
-        due.is("without act 0", x.may(1, 1, 4, 5), 5);
-        x.right(0, 0, TraderRights.NONE, 0, 100);
-        due.is("with act 0 of who gave it alone", x.may(1, 1, 4, 5), 5);
-        x.right(1, 0, 4, 5, 9);
-        due.is("with act 0 there", x.may(1, 1, 4, 5), 0);
-        due.is("with act 0 elsewhere", x.may(1, 1, 3, 5), 5);
-        due.is("with act 0 on another day", x.may(1, 1, 4, 10), 5);
-        x.forbid(1, 0, true);
-        due.is("with act 0 forbidden", x.may(1, 1, 4, 5), 5);
-        due.is("behind it", x.may(1, 1, 4, 51), 7);
-    }
-
-    private static void wrong() {
+    private static void noSuchTraders() {
         for (int t : World.WRONG_TRADERS) {
             due.throwing("from " + t, IllegalArgumentException.class, World::four, x -> x.mandate(t, 0, true, 0));
-            due.throwing("to " + t, IllegalArgumentException.class, World::four, x -> x.mandate(0, t, true, 0));
+            due.throwing("to " + t, IllegalArgumentException.class, World::four, x -> x.mandate(0, t, false, 0));
+            due.throwing("both " + t, IllegalArgumentException.class, World::four, x -> x.mandate(t, t, true, 0));
         }
-        for (int day : World.WRONG_DAYS) {
-            due.throwing("until " + day, IllegalArgumentException.class, World::four, x -> x.mandate(0, 1, true, day));
-        }
-        due.throwing("the same", IllegalArgumentException.class, World::four, x -> x.mandate(2, 2, true, 0));
+        due.is("the first and the last", World.four().mandate(0, 3, true, 0), 1);
     }
 
-    private static TraderRights with60() {
+    private static void theSame() {
+        for (int t = 0; t < 4; t++) {
+            int same = t;
+            due.throwing("both " + t, IllegalArgumentException.class, World::four,
+                    x -> x.mandate(same, same, true, 0));
+        }
+    }
+
+    private static void noSuchDay() {
+        for (int day : World.WRONG_DAYS) {
+            due.throwing("until " + day, IllegalArgumentException.class, World::four, x -> x.mandate(0, 1, true, day));
+            due.throwing("until " + day + ", not direct", IllegalArgumentException.class, World::four,
+                    x -> x.mandate(0, 1, false, day));
+        }
+        due.is("the first day", World.four().mandate(0, 1, true, 0), 1);
+        due.is("the last day", World.four().mandate(0, 1, true, 100000), 1);
+    }
+
+    private static void thereAre60() {
         TraderRights x = World.four();
         for (int i = 1; i <= 60; i++) {
             due.is("mandate number " + i, x.mandate(i % 4, (i + 1) % 4, i % 2 == 0, i), i);
         }
-        return x;
-    }
-
-    private static void full() {
-        due.throwing("the 61st", IllegalStateException.class, Promise07MandateTest::with60,
-                x -> x.mandate(0, 1, true, 0));
-        due.throwing("the 61st, the same", IllegalArgumentException.class, Promise07MandateTest::with60,
-                x -> x.mandate(1, 1, true, 0));
-        due.throwing("the 61st, a wrong day", IllegalArgumentException.class, Promise07MandateTest::with60,
-                x -> x.mandate(0, 1, true, 100001));
+        due.throwing("the 61st", IllegalStateException.class, World::full, y -> y.mandate(0, 1, true, 0));
+        due.throwing("the 61st, not direct", IllegalStateException.class, World::full,
+                y -> y.mandate(11, 0, false, 100000));
     }
 }

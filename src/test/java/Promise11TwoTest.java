@@ -1,30 +1,49 @@
 public final class Promise11TwoTest {
-    public static void main(String[] args) {
-        Due due = new Due();
-        TraderRights x = new TraderRights();
-        due.yes("two(0, true)", x.two(0, true));
-        due.yes("two(7, true)", x.two(7, true));
-        due.is("bits of 0 and 7", x.count(4), 129);
-        due.yes("two(3, true)", x.two(3, true));
-        due.is("bits of 0, 3 and 7", x.count(4), 137);
-        due.yes("two(0, false)", x.two(0, false));
-        due.is("bits of 3 and 7", x.count(4), 136);
+    private static final Due due = new Due();
 
-        due.refused("needs two already", 0, Promise11TwoTest::third, y -> y.two(3, true) ? 1 : 0);
-        due.refused("does not need two already", 0, Promise11TwoTest::third, y -> y.two(2, false) ? 1 : 0);
-        for (int act : World.WRONG_ACTS) {
-            due.refused("needs, act " + act, 0, Promise11TwoTest::third, y -> y.two(act, true) ? 1 : 0);
-            due.refused("does not need, act " + act, 0, Promise11TwoTest::third, y -> y.two(act, false) ? 1 : 0);
-        }
-        // as bits of an int 32 and more would fall on the act 0 and up
-        due.refused("needs, act 35", 0, Promise11TwoTest::third, y -> y.two(35, true) ? 1 : 0);
-        due.refused("does not need, act 35", 0, Promise11TwoTest::third, y -> y.two(35, false) ? 1 : 0);
+    public static void main(String[] args) {
+        due.sentence("An act needs two, or not: true", Promise11TwoTest::told);
+        due.sentence("false if there is no such act", Promise11TwoTest::noSuchAct);
+        due.sentence("or it is so", Promise11TwoTest::itIsSo);
         due.end();
     }
 
-    private static TraderRights third() {
+    private static void told() {
         TraderRights x = new TraderRights();
+        int bits = 0;
+        for (int act = 0; act <= 7; act++) {
+            due.yes("act " + act + " needs two", x.two(act, true));
+            bits += 1 << act;
+            due.is("acts that need two", x.count(4), bits);
+        }
+        for (int act = 0; act <= 7; act++) {
+            due.yes("act " + act + " needs two no more", x.two(act, false));
+            bits -= 1 << act;
+            due.is("acts that need two", x.count(4), bits);
+        }
+        due.yes("once more", x.two(7, true));
+    }
+
+    private static TraderRights world() {
+        TraderRights x = new TraderRights();
+        x.two(0, true);
         x.two(3, true);
+        x.two(5, true);
+        x.two(5, false);
         return x;
+    }
+
+    private static void noSuchAct() {
+        for (int act : World.WRONG_ACTS) {
+            due.refused("act " + act + " needs two", Promise11TwoTest::world, x -> x.two(act, true));
+            due.refused("act " + act + " needs two no more", Promise11TwoTest::world, x -> x.two(act, false));
+        }
+    }
+
+    private static void itIsSo() {
+        due.refused("needs two", Promise11TwoTest::world, x -> x.two(0, true));
+        due.refused("needs two, another", Promise11TwoTest::world, x -> x.two(3, true));
+        due.refused("never needed two", Promise11TwoTest::world, x -> x.two(7, false));
+        due.refused("needs two no more", Promise11TwoTest::world, x -> x.two(5, false));
     }
 }
