@@ -17,6 +17,10 @@ public final class CallsTest {
             due.is("round " + round, World.read(x, round % 2 == 0 ? "AAAAAZM" : "IKVOZVH"), 1);
         }
         due.is("the 512th call", x.certified(), 25);
+        TraderRights y = new TraderRights();
+        World.read(y, "ZZZZZ".repeat(102));
+        due.is("the 511th letter", y.check('Z'), -1);
+        due.is("the 512th letter", y.check('Z'), 0);
     }
 
     private static void questions() {

@@ -117,7 +117,7 @@ public final class RandomRunsTest {
     }
 
     private int trader() {
-        return wild(Math.max(1, x.count(0)), 12);
+        return wild(Math.max(1, (int) model.count(0)), 12);
     }
 
     private int day() {

@@ -36,6 +36,7 @@ public final class TermsRightsTest {
         for (int i = 0; i < 60; i++) {
             due.is("by right number " + i, x.may(i % 12, i / 12, i % 8, i), 0);
             due.is("the day behind right number " + i, x.may(i % 12, i / 12, i % 8, i + 1), 7);
+            due.is("acts by right number " + i, x.look(i % 12, i, 3), 1);
         }
     }
 
